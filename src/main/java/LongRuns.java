@@ -413,43 +413,30 @@ public final class LongRuns {
 
     public int swaps(int row, int other) {
         past.note(now);
-        return heldIfDone(swapTold(row, other));
+        return heldIfDone(moveTold(row, other, true));
     }
 
-    private int swapTold(int row, int other) {
-        int why = whyNotTwoRows(row, other);
-        if (why != 0) {
-            return why;
+    private int moveTold(int row, int to, boolean isSwap) {
+        if (!now.hasRow(row) || !now.hasRow(to)) {
+            return NONE;
+        }
+        if (row == to) {
+            return -2;
         }
         line.read(now);
         int ahead = line.runsOfLine();
-        line.exchange(row, other);
+        if (isSwap) {
+            line.exchange(row, to);
+        } else {
+            line.shift(row, to);
+        }
         line.carryOut(now);
         return NO_CHANGE_OF_RUNS + ahead - line.runsOfLine();
-    }
-
-    private int whyNotTwoRows(int row, int other) {
-        if (!now.hasRow(row) || !now.hasRow(other)) {
-            return NONE;
-        }
-        return row == other ? -2 : 0;
     }
 
     public int moves(int row, int to) {
         past.note(now);
-        return heldIfDone(moveTold(row, to));
-    }
-
-    private int moveTold(int row, int to) {
-        int why = whyNotTwoRows(row, to);
-        if (why != 0) {
-            return why;
-        }
-        line.read(now);
-        int ahead = line.runsOfLine();
-        line.shift(row, to);
-        line.carryOut(now);
-        return NO_CHANGE_OF_RUNS + ahead - line.runsOfLine();
+        return heldIfDone(moveTold(row, to, false));
     }
 
     public int bestSwap() {
@@ -587,9 +574,9 @@ public final class LongRuns {
     private int doAct(int p) {
         switch (text.signAt(p)) {
             case 's':
-                return swapTold(text.twoDigitsAt(p + 1), text.twoDigitsAt(p + 3));
+                return moveTold(text.twoDigitsAt(p + 1), text.twoDigitsAt(p + 3), true);
             case 'm':
-                return moveTold(text.twoDigitsAt(p + 1), text.twoDigitsAt(p + 3));
+                return moveTold(text.twoDigitsAt(p + 1), text.twoDigitsAt(p + 3), false);
             case 't':
                 return tourTold(text.twoDigitsAt(p + 1));
             case 'r':
@@ -880,9 +867,9 @@ public final class LongRuns {
             if (number == 0) {
                 return 0;
             }
-            long exponent = (number >> FLOAT_FRACTION & 255) + DOUBLE_BIAS - FLOAT_BIAS;
-            long fraction = number & (1L << FLOAT_FRACTION) - 1;
-            long bits = exponent << DOUBLE_FRACTION | fraction << DOUBLE_FRACTION - FLOAT_FRACTION;
+            long exponent = ((number >> FLOAT_FRACTION) & 255) + DOUBLE_BIAS - FLOAT_BIAS;
+            long fraction = number & ((1L << FLOAT_FRACTION) - 1);
+            long bits = (exponent << DOUBLE_FRACTION) | (fraction << (DOUBLE_FRACTION - FLOAT_FRACTION));
             return number < 0 ? bits | DOUBLE_SIGN : bits;
         }
 
@@ -896,8 +883,8 @@ public final class LongRuns {
             int spare = top - fraction;
             long digits = spare > 0 ? size >>> spare : size << -spare;
             if (spare > 0) {
-                long rest = size & (1L << spare) - 1;
-                long half = 1L << spare - 1;
+                long rest = size & ((1L << spare) - 1);
+                long half = 1L << (spare - 1);
                 if (rest > half || rest == half && (digits & 1) == 1) {
                     digits++;
                 }

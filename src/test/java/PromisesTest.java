@@ -567,6 +567,20 @@ public final class PromisesTest {
             answers 1433674801 1
             coded 2 = 1
             answers 4804923564048252928 1
+            new
+            text 02ddf
+            table = 3
+            sheet 0 7 2 2 1 -1 = 2
+            sheet 2 6 2 2 1 -1 = 2
+            copies 0 1 = 2
+            answers 0
+            coded 1 = 2
+            answers 4593671619917905920 1 0 1
+            copies 2 1 = 2
+            coded 1 = 2
+            answers 4598175219545276416 1 0 1
+            coded 2 = 2
+            answers 1048576000 1 0 1
             """},
         {"11", """
             text 02bijfdn
@@ -1039,6 +1053,17 @@ public final class PromisesTest {
             table = 1
             best true = 0
             answers 0
+            new
+            text 05bbbbb                 # the very last of 120 orders is the best
+            table = 5
+            text pa000102pa010104pa020103pa030102pa040101
+            day = 5
+            text pb000101pb010103pb030102pb040102pc000102pc010101
+            day = 6
+            text pc020102pc030102pd000101pd010101pd040101pe010101
+            day = 6
+            best true = 16
+            answers 4 3 2 1 0
             """},
         {"25", """
             tours 2 = 0
@@ -1156,6 +1181,14 @@ public final class PromisesTest {
             put 0 3 4 1 = 0              # 1 0 0 1: 1 1 0 0 or 0 0 1 1
             bestSwap = 1
             answers 0 2
+            new
+            text 05i
+            table = 1
+            put 0 1 4 1 = 0
+            put 0 3 4 1 = 0
+            put 0 4 4 1 = 0              # 0 1 0 1 1
+            bestSwap = 2
+            answers 1 2
             """},
         {"29", """
             place 0 = -1
@@ -1381,6 +1414,10 @@ public final class PromisesTest {
             tagged 1 = 1
             tagged 3 = 3
             years 2 20 17 = -1
+            keep 0 = true
+            years 2 20 2 = 5
+            again 0 = true
+            count 3 = 0
             years 2 3 5 = 5              # 1 and 2, 2 and 2, 0 and 0
             tagged 1 = 2
             tagged 2 = 1
@@ -1395,7 +1432,11 @@ public final class PromisesTest {
             tagged 3 = 3                 # 0 3 2 1 4 became 0 2 4 3 1
             tagged 1 = 4
             tagged 4 = 2
-            count 3 = 5
+            count 3 = 4
+            text 01i
+            table = 1
+            years 7 20 2 = 1
+            answers 1 0
             """},
         {"35", """
             keep 0 = true
