@@ -598,8 +598,8 @@ public final class LongRuns {
         if (now.rows == 0) {
             return -2;
         }
+        // It is forgotten: the line is shuffled and toured, the table itself is left as it is.
         line.read(now);
-        int ahead = line.runsOfLine();
         int r = seed;
         for (int k = 0; k < n; k++) {
             r = drawOn(r);
@@ -607,9 +607,8 @@ public final class LongRuns {
             r = drawOn(r);
             line.exchange(row, drawn(r, now.rows));
         }
-        int blocks = line.tourBlocks(b);
-        line.carryOut(now);
-        answers.tell(ahead, blocks);
+        int ahead = line.runsOfLine();
+        answers.tell(ahead, line.tourBlocks(b));
         return line.runsOfLine();
     }
 

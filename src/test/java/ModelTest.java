@@ -934,15 +934,19 @@ public final class ModelTest {
             if (n < 1 || n > 20 || b < 2 || b > 16 || now.rows == 0) {
                 return n < 1 || n > 20 || b < 2 || b > 16 ? -1 : -2;
             }
+            State forgotten = now;
+            now = now.copy();
             drawn = seed;
-            int ahead = now.runs();
             for (int k = 0; k < n; k++) {
                 int row = draw(now.rows);
                 arrangeTwo(row, draw(now.rows), true);
             }
+            int ahead = now.runs();
             int changed = tourOnce(b);
             tell(ahead, changed);
-            return now.runs();
+            int then = now.runs();
+            now = forgotten;
+            return then;
         }
 
         boolean keep(int i) {

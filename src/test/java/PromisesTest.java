@@ -1408,31 +1408,77 @@ public final class PromisesTest {
             years 1 1 2 = 5              # rows 3 and 1 are drawn
             answers 5 0
             count 3 = 1
-            tagged 1 = 3
-            tagged 3 = 1
-            years 1 2 16 = 5             # 3 and 1, then 3 and 3
-            tagged 1 = 1
+            tagged 1 = 1                 # it is forgotten
             tagged 3 = 3
+            take 0 1 4 = 0
+            answers 1
             years 2 20 17 = -1
-            keep 0 = true
-            years 2 20 2 = 5
-            again 0 = true
-            count 3 = 0
-            years 2 3 5 = 5              # 1 and 2, 2 and 2, 0 and 0
-            tagged 1 = 2
-            tagged 2 = 1
+            years 2 0 2 = -1
+            answers 1                    # those that were told stay
+            text 05i
+            table = 1
+            sheet 0 4 2 2 0 0 = 2
+            put 0 2 4 1 = 0
+            put 0 3 4 1 = 0
+            put 0 4 4 1 = 0              # 0 0 1 1 1
+            all = 2
+            text ab
+            years 1 1 2 = 4              # 3 and 1: 0 1 1 0 1
+            answers 4 0
+            years 1 2 2 = 4              # 3 and 1, then 3 and 3
+            answers 4 0
+            years 1 1 16 = 2             # the tour mends it: RUNS ahead are those behind the swaps
+            answers 4 1
+            years 2 1 2 = 4              # 1 and 2: 0 1 0 1 1
+            answers 4 0
+            years 2 3 2 = 4              # 1 and 2, 2 and 2, 0 and 0
+            answers 4 0
+            years 2 3 5 = 2
+            answers 4 1
+            count 5 = 2                  # no text is read
+            count 3 = 5
+            all = 2
             tagged 0 = 0
-            restores = 2
-            sheet 0 0 2 5 0 1 = 0
-            put 0 2 4 0 = 0
-            put 0 4 4 0 = 0
+            tagged 1 = 1
+            tagged 2 = 2
+            tagged 3 = 3
+            coded 0 = 2
+            answers 0 2 1 3
+            undo = 4
+            coded 0 = 3
+            answers 0 2 1 2 0 1
+            end 0 = true
+            text 06bb                    # the runs that issues told
+            table = 2
+            put 0 0 1 1 = 0
+            years 0 1 2 = 4              # 0 and 2, the second of a draw with the sign bit
+            answers 4 0
+            coded 0 = 2
+            answers 1 1 0 5
+            tagged 0 = 0
+            count 3 = 6
+            text 05i
+            table = 1
+            put 0 1 4 1 = 0
             put 0 3 4 1 = 0              # 0 1 0 1 0
             years 1 1 16 = 2
             answers 5 1
-            tagged 3 = 3                 # 0 3 2 1 4 became 0 2 4 3 1
-            tagged 1 = 4
-            tagged 4 = 2
-            count 3 = 4
+            years 1 1 16 = 2             # once more the same
+            answers 5 1
+            all = 5
+            tagged 3 = 3
+            tagged 4 = 4
+            count 3 = 8
+            keep 0 = true
+            years 2 20 16 = 2
+            again 0 = true
+            all = 5
+            swaps 0 1 = 1001
+            years 1 1 2 = 2              # 1 0 0 1 0 by swaps(); 3 and 1: 1 1 0 0 0
+            answers 2 0
+            tagged 0 = 1                 # what swaps() did stays
+            undo = 0
+            tagged 0 = 0
             text 01i
             table = 1
             years 7 20 2 = 1
