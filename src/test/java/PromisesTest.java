@@ -1,27 +1,14 @@
-import java.lang.reflect.InvocationTargetException;
-import java.lang.reflect.Method;
-import java.util.ArrayList;
-import java.util.List;
-import java.util.NoSuchElementException;
-
-/**
- * Runs of calls for each promise, written as scripts.
- *
- * A script's rows: "new" (a new object), "text abc" (THE TEXT becomes abc), "name arguments = answer",
- * "name arguments throws" (NoSuchElementException), "answers a b .." (all of ANSWERS), and, behind #, why.
- */
+/** Runs of calls for each promise by its number, as scripts (src/test/help/Script.java says how they are written). */
 public final class PromisesTest {
-    private static int wrong = 0;
-    private static int checked = 0;
-
-    public static void main(String[] args) throws Exception {
-        for (String[] script : SCRIPTS) {
-            run(script[0], script[1]);
+    public static void main(String[] args) {
+        Script script = new Script();
+        for (String[] told : SCRIPTS) {
+            script.run("promise " + told[0], told[1]);
         }
-        run("2", eightyOneSigns());
-        run("33", nineThings());
-        System.out.println(checked + " answers looked at, " + wrong + " are not as due");
-        if (wrong != 0) {
+        script.run("promise 2", eightyOneSigns());
+        script.run("promise 33", nineThings());
+        System.out.println(script.summary());
+        if (script.wrongOnes() != 0) {
             System.exit(1);
         }
     }
@@ -51,78 +38,6 @@ public final class PromisesTest {
         }
         script.append("undo = -1\ntake 0 0 10 = 0\nanswers 1\n");
         return script.toString();
-    }
-
-    private static void run(String promise, String script) throws Exception {
-        LongRuns x = new LongRuns();
-        int number = 0;
-        for (String whole : script.split("\n")) {
-            number++;
-            String row = whole.contains("#") ? whole.substring(0, whole.indexOf('#')).trim() : whole.trim();
-            if (row.isEmpty()) {
-                continue;
-            }
-            if (row.equals("new")) {
-                x = new LongRuns();
-            } else if (row.equals("text") || row.startsWith("text ")) {
-                writeText(x, row.equals("text") ? "" : row.substring(5));
-            } else if (row.equals("answers") || row.startsWith("answers ")) {
-                due(promise, number, row, told(x), row.substring(7).trim());
-            } else if (row.endsWith(" throws")) {
-                String call = row.substring(0, row.length() - 7);
-                due(promise, number, row, call(x, call), "throws");
-            } else {
-                int cut = row.indexOf(" = ");
-                due(promise, number, row, call(x, row.substring(0, cut)), row.substring(cut + 3));
-            }
-        }
-    }
-
-    private static void due(String promise, int number, String row, String got, String want) {
-        checked++;
-        if (!got.equals(want)) {
-            wrong++;
-            System.out.println("promise " + promise + ", row " + number + ": " + row + ": answered " + got);
-        }
-    }
-
-    private static void writeText(LongRuns x, String text) {
-        x.end(0);
-        for (int p = 0; p < text.length(); p += 4) {
-            int v = 0;
-            for (int k = 0; k < 4; k++) {
-                v = v << 8 | (p + k < text.length() ? text.charAt(p + k) : 0);
-            }
-            x.sign(v);
-        }
-        x.end(text.length());
-    }
-
-    private static String told(LongRuns x) {
-        List<String> numbers = new ArrayList<>();
-        for (int i = 0; i < x.count(4); i++) {
-            numbers.add(Long.toString(x.answer(i)));
-        }
-        return String.join(" ", numbers);
-    }
-
-    private static String call(LongRuns x, String words) throws Exception {
-        String[] parts = words.split(" ");
-        for (Method method : LongRuns.class.getMethods()) {
-            if (method.getDeclaringClass() == LongRuns.class && method.getName().equals(parts[0])) {
-                Object[] values = new Object[parts.length - 1];
-                for (int k = 0; k < values.length; k++) {
-                    values[k] = method.getParameterTypes()[k] == boolean.class
-                            ? (Object) Boolean.valueOf(parts[k + 1]) : (Object) Integer.decode(parts[k + 1]);
-                }
-                try {
-                    return String.valueOf(method.invoke(x, values));
-                } catch (InvocationTargetException e) {
-                    return e.getCause().getClass() == NoSuchElementException.class ? "throws" : e.getCause().toString();
-                }
-            }
-        }
-        return "no such call";
     }
 
     private static final String[][] SCRIPTS = {
