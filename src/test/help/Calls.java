@@ -119,7 +119,8 @@ final class Calls {
         return String.join(" ", tags);
     }
 
-    private String table() {
+    /** Columns, cells and tags; what tells them changes ANSWERS. */
+    String table() {
         StringBuilder told = new StringBuilder();
         for (int column = 0; column < MOST_COLUMNS; column++) {
             told.append(make("kind " + column)).append(' ').append(make("length " + column)).append(": ");

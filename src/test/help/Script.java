@@ -12,6 +12,7 @@ import java.util.List;
  *   name arguments throws      a call that throws NoSuchElementException
  *   refused call = answer      behind it all is as it was; THE TEXT is empty, if the call reads it
  *   asks call = answer         likewise, but for ANSWERS
+ *   undone call = answer       undo() would take it back: COLUMNS, cells, TAGS as ahead of it (asked of a twin)
  *   each a..b row              a row for each number, which is put for *; of its answers, one each or one for all
  *   repeat n row               a row, n times
  *   answers a b ..             all of ANSWERS
@@ -19,6 +20,7 @@ import java.util.List;
  *   rows = a b ..              the TAGS of the rows, as they lie
  */
 final class Script {
+    private static final int MOST_UNDONE = 8;
     private static final List<String> READERS = Arrays.asList("table", "bound", "sorts", "day");
 
     private Calls calls = new Calls();
@@ -80,6 +82,9 @@ final class Script {
                 break;
             case "asks":
                 doAndCompare(rest, false);
+                break;
+            case "undone":
+                doAndUndo(rest);
                 break;
             default:
                 due(calls.make(callOf(row)), answerOf(row));
@@ -145,6 +150,15 @@ final class Script {
             wrong++;
             System.out.println(where + ": it changes what must stay; was\n" + was + "is\n" + is);
         }
+    }
+
+    private void doAndUndo(String row) {
+        Calls ahead = calls.twin();
+        due(calls.make(callOf(row)), answerOf(row));
+        Calls back = calls.twin();
+        int couldBe = Integer.parseInt(ahead.make("count 3"));
+        due(back.make("undo"), String.valueOf(Math.min(couldBe, MOST_UNDONE - 1)));
+        due(back.table(), ahead.table());
     }
 
     private void due(String got, String written) {

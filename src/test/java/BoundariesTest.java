@@ -20,6 +20,7 @@ public final class BoundariesTest {
     private static final Path TESTS = Path.of("src/test/boundaries");
     private static final String HEAD = "== ";
     private static final int PROMISES = 38;
+    private static final int MOST_SECONDS = 300;
 
     private static final Map<String, String> PARTS = new HashMap<>();
     private static final Map<String, boolean[]> QUOTED = new HashMap<>();
@@ -27,15 +28,18 @@ public final class BoundariesTest {
     private static int tests = 0;
 
     public static void main(String[] args) throws IOException {
+        Watch.begin(MOST_SECONDS);
         readDocument();
         Script script = new Script();
         for (Path file : files()) {
             runFile(script, file);
         }
-        for (int promise = 1; promise <= PROMISES; promise++) {
+        for (int promise = 1; promise <= PROMISES && !PARTS.isEmpty(); promise++) {
             lookForWordsLeft("Promise " + promise);
         }
-        lookForWordsLeft("Terms");
+        if (!PARTS.isEmpty()) {
+            lookForWordsLeft("Terms");
+        }
         System.out.println(tests + " boundary tests: " + script.summary());
         if (faults != 0 || script.wrongOnes() != 0) {
             System.exit(1);
@@ -53,6 +57,10 @@ public final class BoundariesTest {
 
     /** Parts of the document by their headings; of a promise, what stands behind the line of its call. */
     private static void readDocument() throws IOException {
+        if (!Files.isReadable(DOCUMENT)) {
+            System.out.println("the document is not at hand: its words are not looked for");
+            return;
+        }
         for (String part : Files.readString(DOCUMENT).split("(?m)^## ")) {
             String heading = part.split("\n")[0];
             String name = heading.startsWith("Promise ") ? heading.substring(0, heading.indexOf(':')) : heading.trim();
@@ -102,7 +110,9 @@ public final class BoundariesTest {
             fault("no rows: " + head);
         }
         int cut = head.indexOf(": ");
-        quote(head.substring(0, Math.max(0, cut)), head.substring(cut + 2).trim());
+        if (!PARTS.isEmpty()) {
+            quote(head.substring(0, Math.max(0, cut)), head.substring(cut + 2).trim());
+        }
         script.run(head, rows);
     }
 

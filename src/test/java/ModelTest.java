@@ -15,8 +15,10 @@ import java.util.Set;
 public final class ModelTest {
     private static final int RUNS = 200;
     private static final int CALLS = 500;
+    private static final int MOST_SECONDS = 300;
 
     public static void main(String[] args) {
+        Watch.begin(MOST_SECONDS);
         int[] fine = new int[40];
         for (int run = 0; run < RUNS; run++) {
             Driver driver = new Driver(run, fine);

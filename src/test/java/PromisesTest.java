@@ -1,6 +1,9 @@
 /** Runs of calls for each promise by its number, as scripts (src/test/help/Script.java says how they are written). */
 public final class PromisesTest {
+    private static final int MOST_SECONDS = 300;
+
     public static void main(String[] args) {
+        Watch.begin(MOST_SECONDS);
         Script script = new Script();
         for (String[] told : SCRIPTS) {
             script.run("promise " + told[0], told[1]);
