@@ -952,7 +952,7 @@ public final class LongRuns {
         }
 
         int whyUnasked(int column) {
-            if (isProper(column)) {
+            if (kinds[column] <= Kinds.MARKS) {
                 return 0;
             }
             return kinds[column] == Kinds.MISSING ? 2 : 3;
@@ -1351,9 +1351,9 @@ public final class LongRuns {
             for (int row = 0; row < rows; row++) {
                 line[row] = row;
                 for (int other = 0; other < row; other++) {
-                    int cells = table.unlikeCells(row, other);
-                    unlike[row * MOST_ROWS + other] = cells;
-                    unlike[other * MOST_ROWS + row] = cells;
+                    int many = table.unlikeCells(row, other);
+                    unlike[row * MOST_ROWS + other] = many;
+                    unlike[other * MOST_ROWS + row] = many;
                 }
             }
         }
